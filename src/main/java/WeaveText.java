@@ -413,8 +413,9 @@ public final class WeaveText {
         if (latestFault != SOUND) {
             return 0;
         }
+        int before = peer.graph.taken.size();
         latestFault = reader.bring(message, peer.graph);
-        return reader.arrived;
+        return peer.graph.taken.size() - before;
     }
 
     private void raiseFault() {
@@ -498,8 +499,7 @@ public final class WeaveText {
                 add(code);
                 return;
             }
-            // The first byte has as many leading ones as the symbol has bytes.
-            add(code >> 6 * more | 0xf80 >> more);
+            add(code >> 6 * more | (more == 1 ? 192 : more == 2 ? 224 : 240));
             for (int k = more - 1; k >= 0; k--) {
                 add(code >> 6 * k & 63 | 128);
             }
@@ -1586,13 +1586,9 @@ public final class WeaveText {
         private final Cursor parents = new Cursor();
         private final Cursor ops = new Cursor();
         private final Cursor text = new Cursor();
-        private final Cursor row = new Cursor();
         private final int[] ids = new int[AGENT_IDS];
         private final Event[] found = new Event[AGENTS];
-        private int foundCount = 0;
         private int agentCount = 0;
-        private int spanCount = 0;
-        private int arrived = 0;
         private Event last = null;
         private int symbolPlace = 0;
 
@@ -1651,14 +1647,13 @@ public final class WeaveText {
             int total = 0;
             int inserted = 0;
             expected = 0;
-            spanCount = 0;
-            while (spanCount < EVENTS && !spans.isDone()) {
-                if (!readSpan() || size > EVENTS - total || spanCount == 0 && parentCount == NONE) {
+            while (total < EVENTS && !spans.isDone()) {
+                // There is nothing in front of the first span that it could go on from.
+                if (!readSpan() || size > EVENTS - total || total == 0 && parentCount == NONE) {
                     return false;
                 }
                 total += size;
                 inserted += kind == INSERTS ? size : 0;
-                spanCount++;
             }
             return spans.isDone() && parents.isDone() && ops.isDone() && inserted == symbols;
         }
@@ -1706,14 +1701,13 @@ public final class WeaveText {
         /** Brings the events of an inspected patch into a graph, up to the first fault, which it answers. */
         int bring(Bytes message, Graph graph) {
             openColumns(message);
-            arrived = 0;
             last = null;
             symbolPlace = 0;
             expected = 0;
-            for (int k = 0; k < spanCount; k++) {
+            for (int k = 0; k < EVENTS && !spans.isDone(); k++) {
                 readSpan();
-                for (int j = 0; j < size; j++) {
-                    int fault = bringEvent(graph, j);
+                for (int step = 0; step < size; step++) {
+                    int fault = bringEvent(graph, step);
                     if (fault != SOUND) {
                         return fault;
                     }
@@ -1729,19 +1723,19 @@ public final class WeaveText {
                 last = known;
                 return SOUND;
             }
-            if (number + step > graph.countOf(agent) || !seekParents(graph, step)) {
+            int count = number + step > graph.countOf(agent) ? NONE : seekParents(graph, step);
+            if (count == NONE) {
                 return MISSING;
             }
             // Of so many events two are of one agent, and so one is an ancestor of the other.
-            if (foundCount > AGENTS) {
+            if (count > AGENTS) {
                 return WRONG;
             }
             long there = index + (kind == INSERTS ? step : kind == DELETES_THERE ? 0 : -step);
-            int fault = graph.faultOf(agent, number + step, found, foundCount, kind == INSERTS, there);
+            int fault = graph.faultOf(agent, number + step, found, count, kind == INSERTS, there);
             if (fault == SOUND) {
-                graph.enter(agent, found, foundCount, character, (int) there);
+                graph.enter(agent, found, count, character, (int) there);
                 last = graph.newest();
-                arrived++;
             }
             return fault;
         }
@@ -1752,26 +1746,24 @@ public final class WeaveText {
             return code;
         }
 
-        /** Seeks the parents of an event of the span; false if one is not there. */
-        private boolean seekParents(Graph graph, int step) {
+        /** Seeks the parents of an event of the span: how many it has, NONE if one is not there. */
+        private int seekParents(Graph graph, int step) {
             if (step > 0 || parentCount == NONE) {
                 found[0] = last;
-                foundCount = 1;
-                return last != null;
+                return last == null ? NONE : 1;
             }
-            foundCount = parentCount;
-            row.open(parents.source, parentsPlace, parents.next);
+            parents.next = parentsPlace;
             for (int k = 0; k < parentCount; k++) {
-                int id = ids[row.varint()];
-                Event parent = graph.lookup(id, row.varint());
+                int id = ids[parents.varint()];
+                Event parent = graph.lookup(id, parents.varint());
                 if (parent == null) {
-                    return false;
+                    return NONE;
                 }
                 if (k < AGENTS) {
                     found[k] = parent;
                 }
             }
-            return true;
+            return parentCount;
         }
     }
 }
