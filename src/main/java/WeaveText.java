@@ -730,7 +730,8 @@ public final class WeaveText {
 
     /** The events that a peer has, their tree as a chain in order, and one version of it that is shown. */
     private static final class Graph {
-        private final Event root = new Event(new Agent(NONE, NONE), NONE, NONE, new Event[0], new int[AGENTS], NONE, NONE);
+        private final Event root =
+            new Event(new Agent(NONE, NONE), NONE, NONE, new Event[0], new int[AGENTS], NONE, NONE);
         private final ArrayList<Event> taken = new ArrayList<>();
         private final Agent[] agents = new Agent[AGENT_IDS];
         private int agentCount = 0;
@@ -1141,14 +1142,14 @@ public final class WeaveText {
             for (int k = 0; k < symbols; k++) {
                 int code = text.symbolAt(place);
                 place += Bytes.widthOf(code);
-                write(code, index + k, k == 0);
+                write(code, index + k);
             }
             keepEdit(symbols);
         }
 
         void deleteText(int index, int n) {
             for (int k = 0; k < n; k++) {
-                write(NONE, index, k == 0);
+                write(NONE, index);
             }
             keepEdit(n);
         }
@@ -1159,16 +1160,11 @@ public final class WeaveText {
             }
         }
 
-        /** Makes an own event; the first of an edit comes behind all heads, each other behind the last one. */
-        private void write(int character, int index, boolean first) {
-            int count = 0;
-            if (first) {
-                for (; count < graph.heads.size() && count < AGENTS; count++) {
-                    parents[count] = graph.heads.get(count);
-                }
-            } else {
-                parents[0] = graph.newest();
-                count = 1;
+        /** Makes an own event. From an edit's second one on, the one before is the only head. */
+        private void write(int character, int index) {
+            int count = Math.min(AGENTS, graph.heads.size());
+            for (int k = 0; k < count; k++) {
+                parents[k] = graph.heads.get(k);
             }
             graph.showAll();
             graph.enter(number, parents, count, character, index);
@@ -1199,12 +1195,10 @@ public final class WeaveText {
 
         /** A call's nodes stand in the order in which it made them, so the last one comes first. */
         private void deleteAgain(Edit edit) {
-            boolean first = true;
             for (int k = edit.size - 1; k >= 0; k--) {
                 Event e = graph.taken.get(edit.first + k);
                 if (e.isVisible()) {
-                    write(NONE, e.rank, first);
-                    first = false;
+                    write(NONE, e.rank);
                 }
             }
         }
@@ -1213,7 +1207,7 @@ public final class WeaveText {
         private void insertAgain(Edit edit) {
             for (int k = 0; k < edit.size; k++) {
                 Event node = graph.taken.get(edit.first + k).target;
-                write(node.character, node.rank + k, k == 0);
+                write(node.character, node.rank + k);
             }
         }
 

@@ -27,6 +27,8 @@ public final class LimitsTest {
         new LimitsTest("full peer in sync").fullInSync();
         new LimitsTest("agents").agents();
         new LimitsTest("size of a patch").patchSize();
+        new LimitsTest("patch of 32768 bytes").exactPatch(8185, "32768");
+        new LimitsTest("patch of 32772 bytes").exactPatch(8186, STATE);
         new LimitsTest("whole patch").largestText();
         new LimitsTest("4095 bytes back").packingReach(4095);
         new LimitsTest("4096 bytes back").packingReach(4096);
@@ -212,6 +214,21 @@ public final class LimitsTest {
         due(0, "take", 1, 3);
     }
 
+    /** A text without any repeat that a peer could use: its patch has 28 bytes more than the text. */
+    private void exactPatch(int characters, String size) {
+        int bytes = 4 * characters;
+        byte[] base = noise(4100, 4, 1);
+        for (int seed = 2; repeats(Wire.join(base, Arrays.copyOf(base, 4098))); seed++) {
+            base = noise(4100, 4, seed);
+        }
+        byte[] text = Wire.join(Wire.varints(bytes, 2 * 4100), base, Wire.varints(2L * (bytes - 4100) + 1, 4100));
+        load("" + characters, 0, 0,
+            Wire.patch(2, Wire.agents(9), text, new Wire.Span(0, 0, characters, new int[0], 0, 0)));
+        due(size, "send", 0, 1, 0);
+        due(size.equals(STATE) ? STATE : "" + characters, "sync", 0, 1);
+        due(0, "fault");
+    }
+
     private void largestText() {
         byte[] text = Wire.join(Wire.varints(32768, 8), "😀".getBytes(StandardCharsets.UTF_8),
             Wire.varints(2 * 32764 + 1, 4));
@@ -221,10 +238,12 @@ public final class LimitsTest {
         due(128512, "at", 1, 8191);
     }
 
+    /** Whether four bytes come again within the reach of packing. */
     private static boolean repeats(byte[] text) {
         String all = new String(text, StandardCharsets.ISO_8859_1);
-        for (int k = 1; k + 4 <= text.length; k++) {
-            if (all.indexOf(all.substring(k, k + 4)) < k) {
+        for (int k = 0; k + 4 <= text.length; k++) {
+            int again = all.indexOf(all.substring(k, k + 4), k + 1);
+            if (again > 0 && again - k <= 4095) {
                 return true;
             }
         }

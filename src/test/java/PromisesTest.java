@@ -479,6 +479,19 @@ public final class PromisesTest {
         due(0, "differ", 1, 1);
         due(MISSING, "hunk", 0, 0);
         due(0, "differ", 2, 2);
+        // As many hunks as can be, each of one for one.
+        insert(3, 0, "ab".repeat(20));
+        due(40, "mark", 4, 3);
+        for (int k = 0; k < 20; k++) {
+            due(39, "delete", 3, 2 * k, 1);
+            insert(3, 2 * k, "c");
+        }
+        due(80, "mark", 5, 3);
+        due(20, "differ", 4, 5);
+        for (int k = 0; k < 20; k++) {
+            hunk(k, 2 * k, 1, 2 * k, 1);
+        }
+        due(MISSING, "hunk", 20, 0);
     }
 
     private void hunk(int k, int... row) {
@@ -745,7 +758,9 @@ public final class PromisesTest {
             Wire.join(Wire.varints(4, 2), a, Wire.varints(9, 1)), Wire.join(Wire.varints(5, 2), a, Wire.varints(9)),
             Wire.varints(4, 9, 1), Wire.join(Wire.varints(5, 2), a, Wire.varints(1, 1)),
             Wire.join(Wire.varints(5, 2), a, Wire.varints(0, 9, 1)), Wire.join(Wire.varints(1, 2), Wire.bytes(128)),
-            Wire.join(Wire.varints(2, 4), Wire.bytes(0xc3), a)
+            Wire.join(Wire.varints(2, 4), Wire.bytes(0xc3), a),
+            Wire.join(Wire.varints(5, 2), a, Wire.varints(7, 1), Wire.varints(9, 1)),
+            Wire.join(Wire.varints(5, 2), a, Wire.varints(9, 2), Wire.varints(9, 1))
         };
         for (byte[] text : bad) {
             load(ARGUMENT, 3, 1, Wire.patch(1, Wire.agents(9), text, span(0, 1, null, 0, 0)));
@@ -776,6 +791,8 @@ public final class PromisesTest {
         load(ARGUMENT, 4, 1, Wire.patch(1, nine, none, span(0, 8193, root, 0, 1)));
         load(ARGUMENT, 4, 1, Wire.patch(1, nine, none, span(0, 8192, root, 0, 1), span(8192, 1, null, 0, 1)));
         load(ARGUMENT, 4, 1, Wire.patch(1, nine, none, span(0, HIGH, root, 0, 1)));
+        load(ARGUMENT, 4, 1, Wire.patch(1, nine, none, span(0, 5000, root, 0, 1), span(5000, 5000, null, 0, 1)));
+        load(UNSUPPORTED, 6, 1, Wire.patch(1, nine, none, span(0, 8000, root, 0, 1), span(8000, 192, null, 0, 1)));
         byte[] empty = {};
         byte[] row = Wire.varints(0, 0, 1);
         byte[][][] bad = {
