@@ -1,76 +1,39 @@
 import java.nio.charset.StandardCharsets;
 import java.util.Arrays;
 import java.util.Random;
+import java.util.function.Consumer;
 
 /** The limits that the document names, reached with few calls by patches that unpack to much. */
-public final class LimitsTest {
-    private static final String ARGUMENT = "throws.IllegalArgumentException";
-    private static final String STATE = "throws.IllegalStateException";
-    private static final String MISSING = "throws.NoSuchElementException";
-    private static final String UNSUPPORTED = "throws.UnsupportedOperationException";
-    private static final int CALLS = 512;
-
-    private static int wrong = 0;
-    private static int checks = 0;
-
-    private final Real x = new Real();
-    private final String name;
-
+public final class LimitsTest extends Bench {
     private LimitsTest(String name) {
-        this.name = name;
+        super(new Real(), name);
     }
 
     public static void main(String[] args) {
-        new LimitsTest("events by load").fullByLoad();
-        new LimitsTest("events by hand").fullByHand();
-        new LimitsTest("events by undo").fullByUndo();
-        new LimitsTest("full peer in sync").fullInSync();
-        new LimitsTest("agents").agents();
-        new LimitsTest("size of a patch").patchSize();
-        new LimitsTest("patch of 32768 bytes").exactPatch(8185, "32768");
-        new LimitsTest("patch of 32772 bytes").exactPatch(8186, STATE);
-        new LimitsTest("whole patch").largestText();
-        new LimitsTest("4095 bytes back").packingReach(4095);
-        new LimitsTest("4096 bytes back").packingReach(4096);
-        new LimitsTest("many branches").branches();
-        System.out.println(checks + " checks of the limits, " + wrong + " wrong");
-        if (wrong > 0) {
-            System.exit(1);
-        }
+        real("events by load", LimitsTest::fullByLoad);
+        real("events by hand", LimitsTest::fullByHand);
+        real("events by undo", LimitsTest::fullByUndo);
+        real("full peer in sync", LimitsTest::fullInSync);
+        real("agents", LimitsTest::agents);
+        real("size of a patch", LimitsTest::patchSize);
+        real("patch of 32768 bytes", t -> t.exactPatch(8185, "32768"));
+        real("patch of 32772 bytes", t -> t.exactPatch(8186, STATE));
+        real("whole patch", LimitsTest::largestText);
+        real("4095 bytes back", t -> t.packingReach(4095));
+        real("4096 bytes back", t -> t.packingReach(4096));
+        real("many branches", LimitsTest::branches);
+        finish("the limits");
     }
 
-    private void due(String want, String call, int... args) {
-        checks++;
-        String got = x.call(call, args);
-        if (!got.equals(want) || x.calls() > CALLS) {
-            wrong++;
-            System.out.println(name + ": " + call + Arrays.toString(args) + " answered " + got + ", due is " + want
-                + ", as call " + x.calls());
-        }
-    }
-
-    private void due(long want, String call, int... args) {
-        due("" + want, call, args);
-    }
-
-    private void load(String want, int fault, int peer, byte[] message) {
-        Wire.feed(x, message);
-        due(want, "load", peer);
-        due(fault, "fault");
-    }
-
-    /** So many times the letter a. */
-    private static byte[] letters(int n) {
-        byte[] one = Wire.join(Wire.varints(n, 2), "a".getBytes());
-        return n == 1 ? one : Wire.join(one, Wire.varints(2L * (n - 1) + 1, 1));
-    }
-
-    private static byte[] run(int agent, int n) {
-        return Wire.patch(0, Wire.agents(agent), letters(n), new Wire.Span(0, 0, n, new int[0], 0, 0));
+    /** All this is too much for the model. */
+    private static void real(String name, Consumer<LimitsTest> test) {
+        LimitsTest one = new LimitsTest(name);
+        test.accept(one);
+        one.withinCalls();
     }
 
     private void fullByLoad() {
-        load("8192", 0, 0, run(9, 8192));
+        load("8192", 0, 0, Wire.run(9, 8192));
         due(8192, "length", 0);
         due(8192, "events", 0, 9);
         due(8192, "critical", 0);
@@ -99,7 +62,7 @@ public final class LimitsTest {
     }
 
     private void fullByHand() {
-        load("8189", 0, 0, run(9, 8189));
+        load("8189", 0, 0, Wire.run(9, 8189));
         Wire.feed(x, "bcde");
         due(STATE, "insert", 0, 0);
         due(8189, "events", 0, -1);
@@ -118,7 +81,7 @@ public final class LimitsTest {
     }
 
     private void fullByUndo() {
-        load("4000", 0, 0, run(9, 4000));
+        load("4000", 0, 0, Wire.run(9, 4000));
         due(1999, "delete", 0, 0, 2001);
         due(2001, "undo", 0);
         due(4000, "length", 0);
@@ -133,7 +96,7 @@ public final class LimitsTest {
     }
 
     private void fullInSync() {
-        load("8190", 0, 1, run(9, 8190));
+        load("8190", 0, 1, Wire.run(9, 8190));
         Wire.feed(x, "wxyz");
         due(4, "insert", 0, 0);
         due(STATE, "sync", 0, 1);
@@ -282,7 +245,7 @@ public final class LimitsTest {
 
     /** Two agents write a thousand characters by turns, neither knowing of the other's. */
     private void branches() {
-        load("6000", 0, 0, run(9, 6000));
+        load("6000", 0, 0, Wire.run(9, 6000));
         Wire.Span[] spans = new Wire.Span[1000];
         int expected = 0;
         for (int k = 0; k < spans.length; k++) {
@@ -290,7 +253,7 @@ public final class LimitsTest {
             spans[k] = new Wire.Span(k % 2, k / 2, 1, parents, 6000 - expected, 0);
             expected = 6001;
         }
-        load("1000", 0, 0, Wire.patch(0, Wire.agents(10, 11, 9), letters(1000), spans));
+        load("1000", 0, 0, Wire.patch(0, Wire.agents(10, 11, 9), Wire.letters(1000), spans));
         due(7000, "length", 0);
         due(6000, "critical", 0);
         due(10 * 4294967296L + 499, "head", 0, 0);

@@ -5,23 +5,9 @@ import java.util.function.Consumer;
  * Each promise of the document by hand: ordinary calls, the edges that it names, and wrong inputs. What
  * is due here must be what the model answers, too, so that neither is trusted alone.
  */
-public final class PromisesTest {
-    private static final String ARGUMENT = "throws.IllegalArgumentException";
-    private static final String STATE = "throws.IllegalStateException";
-    private static final String MISSING = "throws.NoSuchElementException";
-    private static final String UNSUPPORTED = "throws.UnsupportedOperationException";
-    private static final int LOW = Integer.MIN_VALUE;
-    private static final int HIGH = Integer.MAX_VALUE;
-
-    private static int wrong = 0;
-    private static int checks = 0;
-
-    private final Calls x;
-    private final String name;
-
+public final class PromisesTest extends Bench {
     private PromisesTest(Calls x, String name) {
-        this.x = x;
-        this.name = name;
+        super(x, name);
     }
 
     public static void main(String[] args) {
@@ -54,54 +40,12 @@ public final class PromisesTest {
         run("31 crossed", PromisesTest::crossed);
         run("the tree", PromisesTest::tree);
         run("tree: left of the next one", PromisesTest::treeLeft);
-        System.out.println(checks + " checks of the promises, " + wrong + " wrong");
-        if (wrong > 0) {
-            System.exit(1);
-        }
+        finish("the promises");
     }
 
     private static void run(String name, Consumer<PromisesTest> test) {
         test.accept(new PromisesTest(new Real(), name));
         test.accept(new PromisesTest(new Model(), name + " (model)"));
-    }
-
-    private void due(String want, String call, int... args) {
-        checks++;
-        String got = x.call(call, args);
-        if (!got.equals(want)) {
-            wrong++;
-            System.out.println(name + ": " + call + Arrays.toString(args) + " answered " + got + ", due is " + want);
-        }
-    }
-
-    private void due(long want, String call, int... args) {
-        due("" + want, call, args);
-    }
-
-    private void insert(int peer, int index, String text) {
-        Wire.feed(x, text);
-        due(text.codePointCount(0, text.length()), "insert", peer, index);
-    }
-
-    private void text(int peer, String text) {
-        int[] codes = text.codePoints().toArray();
-        due(codes.length, "length", peer);
-        for (int k = 0; k < codes.length; k++) {
-            due(codes[k], "at", peer, k);
-        }
-    }
-
-    private void message(int slot, byte[] content) {
-        due(content.length, "octet", slot, -1);
-        for (int k = 0; k < content.length; k++) {
-            due(content[k] & 255, "octet", slot, k);
-        }
-    }
-
-    private void load(String want, int fault, int peer, byte[] message) {
-        Wire.feed(x, message);
-        due(want, "load", peer);
-        due(fault, "fault");
     }
 
     private void newObject() {
@@ -492,12 +436,6 @@ public final class PromisesTest {
             hunk(k, 2 * k, 1, 2 * k, 1);
         }
         due(MISSING, "hunk", 20, 0);
-    }
-
-    private void hunk(int k, int... row) {
-        for (int what = 0; what < 4; what++) {
-            due(row[what], "hunk", k, what);
-        }
     }
 
     private void anchors() {

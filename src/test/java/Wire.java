@@ -97,6 +97,16 @@ final class Wire {
         return plain(text.getBytes(java.nio.charset.StandardCharsets.UTF_8));
     }
 
+    /** So many times the letter a, packed to a few bytes. */
+    static byte[] letters(int n) {
+        return n < 5 ? plain("a".repeat(n)) : join(varints(n, 2), "a".getBytes(), varints(2L * (n - 1) + 1, 1));
+    }
+
+    /** A patch of the first events of an agent, so many times the letter a. */
+    static byte[] run(int agent, int n) {
+        return patch(0, agents(agent), letters(n), new Span(0, 0, n, new int[0], 0, 0));
+    }
+
     static byte[] patch(int sender, byte[] agents, byte[] text, Span... spans) {
         List<byte[]> three = spanColumns(spans);
         return message(1, sender, columns(agents, three.get(0), three.get(1), three.get(2), text));
