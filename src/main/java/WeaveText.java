@@ -277,10 +277,13 @@ public final class WeaveText {
         Peer own = peerOf(peer);
         require(to >= NONE && to < PEERS);
         Bytes message = slotOf(slot);
-        if (!writer.gather(own, to)) {
+        writer.gather(own, to);
+        writer.compose(wire, peer);
+        if (wire.spilt) {
             throw new IllegalStateException();
         }
-        writer.compose(message, peer);
+        message.clear();
+        message.addRange(wire, 0, wire.size);
         return message.size;
     }
 
@@ -315,10 +318,11 @@ public final class WeaveText {
         Peer taker = peerOf(to);
         taker.writeSummary(wire);
         deliver(giver, wire);
-        if (!writer.gather(giver, to)) {
+        writer.gather(giver, to);
+        writer.compose(wire, from);
+        if (wire.spilt) {
             throw new IllegalStateException();
         }
-        writer.compose(wire, from);
         int came = deliver(taker, wire);
         raiseFault();
         return came;
@@ -433,7 +437,7 @@ public final class WeaveText {
         }
     }
 
-    /** Bytes in a row that grows as they come, up to the most that a tape or a message may have. */
+    /** Bytes in a row that grows as they come, up to the most that a tape or a message may have; more is spilt. */
     private static final class Bytes {
         /** The checksum's remainders of half a byte: two steps a byte instead of eight, and no large table. */
         private static final int[] REMAINDERS = {
@@ -585,10 +589,6 @@ public final class WeaveText {
 
         static int widthOf(int code) {
             return code < 128 ? 1 : code < 2048 ? 2 : code < 65536 ? 3 : 4;
-        }
-
-        static int varintWidth(int value) {
-            return value < 1 << 7 ? 1 : value < 1 << 14 ? 2 : value < 1 << 21 ? 3 : value < 1 << 28 ? 4 : 5;
         }
     }
 
@@ -1453,8 +1453,8 @@ public final class WeaveText {
             this.packer = packer;
         }
 
-        /** Makes the columns; false if no message can hold them. */
-        boolean gather(Peer peer, int to) {
+        /** Makes the columns. */
+        void gather(Peer peer, int to) {
             begin();
             ArrayList<Event> taken = peer.graph.taken;
             for (int k = 0; k < taken.size(); k++) {
@@ -1469,11 +1469,9 @@ public final class WeaveText {
                 agents.addVarint(met[k]);
             }
             packer.pack(packed);
-            int total = FRONT + CHECKSUM + sizeOf(agents) + sizeOf(spans) + sizeOf(parents) + sizeOf(ops)
-                + sizeOf(packed);
-            return total <= BYTES;
         }
 
+        /** Makes the message of the columns; if they are too long for one, bytes of it are spilt. */
         void compose(Bytes out, int sender) {
             out.begin(PATCH, sender);
             out.addColumn(agents);
@@ -1482,10 +1480,6 @@ public final class WeaveText {
             out.addColumn(ops);
             out.addColumn(packed);
             out.seal();
-        }
-
-        private static int sizeOf(Bytes column) {
-            return column.spilt ? BYTES : column.size + Bytes.varintWidth(column.size);
         }
 
         private void begin() {

@@ -22,6 +22,7 @@ public final class LimitsTest extends Bench {
         real("4095 bytes back", t -> t.packingReach(4095));
         real("4096 bytes back", t -> t.packingReach(4096));
         real("many branches", LimitsTest::branches);
+        real("many hunks", LimitsTest::manyHunks);
         finish("the limits");
     }
 
@@ -267,5 +268,30 @@ public final class LimitsTest extends Bench {
             due(11 * 4294967296L + 499, "blame", p, 6500);
             due(11 * 4294967296L, "blame", p, 6999);
         }
+    }
+
+    /** Every second one of 2000 characters is deleted: as many hunks, each with its own place. */
+    private void manyHunks() {
+        load("2000", 0, 0, Wire.run(9, 2000));
+        due(2000, "mark", 0, 0);
+        Wire.Span[] spans = new Wire.Span[1000];
+        for (int k = 0; k < spans.length; k++) {
+            spans[k] = new Wire.Span(0, 2000 + k, 1, k == 0 ? new int[] {0, 1999} : null, k == 0 ? 0 : 1, 1);
+        }
+        load("1000", 0, 0, Wire.patch(0, Wire.agents(9), Wire.plain(""), spans));
+        due(3000, "mark", 1, 0);
+        due(1000, "view", 1);
+        due(1000, "differ", 0, 1);
+        for (int k : new int[] {0, 1, 500, 998, 999}) {
+            hunk(k, 2 * k, 1, k, 0);
+        }
+        due(MISSING, "hunk", 1000, 0);
+        due(1000, "differ", 1, 0);
+        for (int k : new int[] {0, 1, 500, 998, 999}) {
+            hunk(k, k, 0, 2 * k, 1);
+        }
+        due(2000, "view", 0);
+        due(97, "viewed", 1999);
+        due(ARGUMENT, "viewed", 2000);
     }
 }

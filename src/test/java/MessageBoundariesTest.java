@@ -1,3 +1,4 @@
+import java.nio.charset.StandardCharsets;
 import java.util.Arrays;
 import java.util.function.Consumer;
 
@@ -73,6 +74,7 @@ public final class MessageBoundariesTest extends Bench {
         both("fault 6: the event before it is no ancestor", MessageBoundariesTest::beforeNoAncestor);
         both("fault 6: deleting, its index is not below", MessageBoundariesTest::deleteIndex);
         both("fault 6: inserting, its index is above", MessageBoundariesTest::insertIndex);
+        both("fault 6: how many nodes it sees, deleted ones left out", MessageBoundariesTest::seenByEach);
         real("fault 7: no room for the event", MessageBoundariesTest::noRoom);
         both("fault 7: no room for its agent", MessageBoundariesTest::noAgent);
         both("faults 5 to 7 are looked for in this order", MessageBoundariesTest::eventFaultOrder);
@@ -91,8 +93,11 @@ public final class MessageBoundariesTest extends Bench {
         both("24 send: spans as long as can be, from the first on", MessageBoundariesTest::sendLongest);
         both("24 send: indices that go up do not go on deleting", MessageBoundariesTest::sendBreaks);
         both("24 send: spans across calls", MessageBoundariesTest::sendAcross);
+        both("24 send: in a span, one agent", MessageBoundariesTest::sendOtherAgent);
+        both("24 send: in a span, the one before is the only parent", MessageBoundariesTest::sendOtherParent);
         both("24 send: the index behind 0 is -1", MessageBoundariesTest::sendBelowZero);
         both("24 send: agents as first met, parents by rising ids", MessageBoundariesTest::sendParents);
+        both("24 send: parents by rising ids, however they came", MessageBoundariesTest::sendSortedParents);
         both("24 send: the greatest n from 4 to 64", MessageBoundariesTest::packSizes);
         both("24 send: the least d", MessageBoundariesTest::packNearest);
         both("24 send: bytes that come to a piece of the first sort", MessageBoundariesTest::packPlain);
@@ -105,6 +110,7 @@ public final class MessageBoundariesTest extends Bench {
         both("25 take: the message stays", MessageBoundariesTest::takeAgain);
         both("25 take: a summary brings no event", MessageBoundariesTest::takeSummary);
         both("25 take: what each fault throws", MessageBoundariesTest::takeFaults);
+        both("25 take: an altered message, sealed again", MessageBoundariesTest::takeForged);
         both("26 load: the tape is empty then", MessageBoundariesTest::loadEmpties);
         both("26 load: an empty tape", MessageBoundariesTest::loadEmpty);
         both("26 load: not if peer is out of range", MessageBoundariesTest::loadRange);
@@ -209,6 +215,8 @@ public final class MessageBoundariesTest extends Bench {
         int[][] bad = {
             {0x80}, {0x80, 0}, {1, 0x85, 0, 1}, {1, 5, 0x81, 0}, {1, 5, 0x80, 0x80, 0x80, 0x80, 0x80, 1},
             {1, 5, 0x80, 0x80, 0x80, 0x80, 8}, {1, 5, 255, 255, 255, 255, 15}, {1, 5, 255, 255, 255, 255, 127},
+            // In 32 bits these would wrap around, to what is right again.
+            {1, 5, 0x81, 0x80, 0x80, 0x80, 16}, {1, 5, 0x80, 0x80, 0x80, 0x80, 17}, {1, 5, 255, 255, 255, 255, 0x77},
             {1, 5, 255, 255, 255, 255, 0x87, 0}, {1, 5, 0x80, 0x80, 0x80, 0x80, 0}, {1, 5, 255}
         };
         for (int[] body : bad) {
@@ -422,8 +430,8 @@ public final class MessageBoundariesTest extends Bench {
     }
 
     private void noText() {
-        int[][] bad = {{0x80}, {0xc2}, {0xc0, 0x80}, {0xed, 0xa0, 0x80}, {0xf4, 0x90, 0x80, 0x80}, {0xe0, 0x9f, 0xbf}, {0xff},
-            {97, 0xf0, 0x9f, 0x98}};
+        int[][] bad = {{0x80}, {0xc2}, {0xc0, 0x80}, {0xed, 0xa0, 0x80}, {0xf4, 0x90, 0x80, 0x80},
+            {0xe0, 0x9f, 0xbf}, {0xff}, {97, 0xf0, 0x9f, 0x98}};
         for (int[] row : bad) {
             load(ARGUMENT, 3, 0, withText(Wire.plain(Wire.bytes(row))));
         }
@@ -497,6 +505,10 @@ public final class MessageBoundariesTest extends Bench {
             {row, root, Wire.bytes(0x80)}, {Wire.bytes(0, 255, 255, 255, 255, 8, 1), root, ZERO},
             {row, root, Wire.bytes(0x80, 0x80, 0x80, 0x80, 8)}
         };
+        // A span that is wrong itself, with nothing for it in the other columns.
+        for (byte[] alone : new byte[][] {Wire.varints(1, 0, 1), Wire.varints(0, 0, 0), Wire.varints(0, 0)}) {
+            load(ARGUMENT, 4, 0, Wire.message(1, 0, Wire.columns(NINE, alone, NOTHING, NOTHING, ZERO)));
+        }
         for (byte[][] columns : bad) {
             load(ARGUMENT, 4, 0, Wire.message(1, 0, Wire.columns(NINE, columns[0], columns[1], columns[2], one)));
         }
@@ -651,6 +663,26 @@ public final class MessageBoundariesTest extends Bench {
         load(1, 0, Wire.patch(0, Wire.agents(8, 9), one, span(0, 1, new int[] {1, 0}, 1, 0)));
         load(1, 0, Wire.patch(0, NINE, one, span(2, 1, new int[] {0, 1}, 2, 0)));
         due(4, "length", 0);
+    }
+
+    /** Agents 8 and 9 by turns, each event in the text of its own ancestors. */
+    private void seenByEach() {
+        byte[] none = Wire.plain("");
+        byte[] one = Wire.plain("x");
+        byte[] both = Wire.agents(9, 8);
+        load(4, 0, Wire.patch(0, NINE, Wire.plain("abcd"), span(0, 4, ROOT, 0, 0)));
+        load(1, 0, Wire.patch(0, both, none, new Wire.Span(1, 0, 1, new int[] {0, 3}, 1, 1)));
+        // Agent 9 sees four still, agent 8 three.
+        load(UNSUPPORTED, 6, 0, Wire.patch(0, both, none, span(4, 1, new int[] {0, 3}, 4, 1)));
+        load(UNSUPPORTED, 6, 0, Wire.patch(0, both, none, new Wire.Span(1, 1, 1, new int[] {1, 0}, 3, 1)));
+        load(UNSUPPORTED, 6, 0, Wire.patch(0, both, one, new Wire.Span(1, 1, 1, new int[] {1, 0}, 4, 0)));
+        load(1, 0, Wire.patch(0, both, none, span(4, 1, new int[] {0, 3}, 1, 1)));
+        // Both have deleted b: with both among the ancestors three are seen.
+        load(UNSUPPORTED, 6, 0, Wire.patch(0, both, one, span(5, 1, new int[] {0, 4, 1, 0}, 4, 0)));
+        load(1, 0, Wire.patch(0, both, one, span(5, 1, new int[] {0, 4, 1, 0}, 3, 0)));
+        text(0, "acdx");
+        load(1, 0, Wire.patch(0, both, none, new Wire.Span(1, 1, 1, new int[] {1, 0}, 2, 1)));
+        text(0, "acx");
     }
 
     private void noRoom() {
@@ -831,6 +863,41 @@ public final class MessageBoundariesTest extends Bench {
         message(0, patch);
     }
 
+    private void sendOtherAgent() {
+        insert(0, 0, "ab");
+        due(2, "sync", 0, 1);
+        insert(1, 2, "c");
+        due(1, "sync", 1, 0);
+        insert(0, 3, "d");
+        byte[] patch = Wire.patch(0, Wire.agents(0, 1), Wire.plain("abcd"), span(0, 2, ROOT, 0, 0),
+            new Wire.Span(1, 0, 1, null, 0, 0), span(2, 1, null, 0, 0));
+        due(patch.length, "send", 0, -1, 0);
+        message(0, patch);
+    }
+
+    private void sendOtherParent() {
+        insert(0, 0, "a");
+        due(1, "sync", 0, 1);
+        insert(1, 0, "b");
+        due(1, "sync", 1, 0);
+        insert(0, 1, "c");
+        // Peer 2 is said to have the event of peer 1 that is between the two.
+        load(0, 0, summary(2, 1, 1, 1));
+        byte[] patch = Wire.patch(0, Wire.agents(0, 1), Wire.plain("ac"), span(0, 1, ROOT, 0, 0),
+            span(1, 1, new int[] {1, 0}, 0, 0));
+        due(patch.length, "send", 0, 2, 0);
+        message(0, patch);
+        // And one with two parents does not go on either.
+        insert(1, 0, "d");
+        due(1, "sync", 1, 0);
+        insert(0, 2, "e");
+        load(0, 0, summary(2, 2, 0, 1, 1, 2));
+        byte[] rest = Wire.patch(0, Wire.agents(0, 1), Wire.plain("ce"), span(1, 1, new int[] {1, 0}, 1, 0),
+            span(2, 1, new int[] {0, 1, 1, 1}, 0, 0));
+        due(rest.length, "send", 0, 2, 0);
+        message(0, rest);
+    }
+
     private void sendBelowZero() {
         insert(0, 0, "abc");
         for (int index : new int[] {2, 1, 0}) {
@@ -860,6 +927,27 @@ public final class MessageBoundariesTest extends Bench {
         message(0, own);
     }
 
+    /** Parents that a message told in another order are written by rising ids all the same. */
+    private void sendSortedParents() {
+        Wire.Span[] spans = {span(0, 1, ROOT, 0, 0), new Wire.Span(1, 0, 1, ROOT, -1, 0),
+            new Wire.Span(2, 0, 1, ROOT, -1, 0), span(1, 1, new int[] {2, 0, 1, 0, 0, 0}, -1, 0)};
+        byte[] agents = Wire.agents(7, 8, 9);
+        byte[] text = Wire.plain("abcd");
+        load(4, 0, Wire.patch(0, agents, text, spans));
+        spans[3].parents = new int[] {0, 0, 1, 0, 2, 0};
+        byte[] sorted = Wire.patch(0, agents, text, spans);
+        due(sorted.length, "send", 0, -1, 0);
+        message(0, sorted);
+        for (int[] parents : new int[][] {{1, 0, 0, 0, 2, 0}, {2, 0, 0, 0, 1, 0}, {0, 0, 2, 0, 1, 0}}) {
+            spans[3].parents = parents;
+            int peer = 1 + parents[0] % 3;
+            load(4, peer, Wire.patch(0, agents, text, spans));
+            spans[3].parents = new int[] {0, 0, 1, 0, 2, 0};
+            due(sorted.length, "send", peer, -1, 0);
+            message(0, Wire.patch(peer, agents, text, spans));
+        }
+    }
+
     private void packed(int slot, String text, byte[] packed) {
         feed(text);
         due(text.codePointCount(0, text.length()), "insert", slot, 0);
@@ -873,19 +961,21 @@ public final class MessageBoundariesTest extends Bench {
     }
 
     private void packSizes() {
-        packed(0, "abcxabcy", Wire.plain("abcxabcy"));
-        packed(1, "abcdxabcdy", Wire.join(Wire.varints(10, 10), "abcdx".getBytes(), Wire.varints(9, 5, 2), "y".getBytes()));
+        packed(0, "abcxabcy1234!1234", Wire.join(Wire.varints(17, 26), "abcxabcy1234!".getBytes(), Wire.varints(9, 5)));
+        packed(1, "abcdxabcdy", Wire.join(Wire.varints(10, 10), "abcdx".getBytes(), Wire.varints(9, 5, 2),
+            "y".getBytes()));
         packed(2, "a".repeat(65), Wire.join(Wire.varints(65, 2), "a".getBytes(), Wire.varints(129, 1)));
         // Behind 64 at once three are left, which are too few.
-        packed(3, "a".repeat(68), Wire.join(Wire.varints(68, 2), "a".getBytes(), Wire.varints(129, 1, 6), "aaa".getBytes()));
+        packed(3, "a".repeat(68), Wire.join(Wire.varints(68, 2), "a".getBytes(), Wire.varints(129, 1, 6),
+            "aaa".getBytes()));
     }
 
     private void packNearest() {
-        packed(0, "abcd1abcd2abcd", Wire.join(Wire.varints(14, 10), "abcd1".getBytes(), Wire.varints(9, 5, 2),
-            "2".getBytes(), Wire.varints(9, 5)));
+        packed(0, "abcd1abcd2abcd3", Wire.join(Wire.varints(15, 10), "abcd1".getBytes(), Wire.varints(9, 5, 2),
+            "2".getBytes(), Wire.varints(9, 5, 2), "3".getBytes()));
         // The nearer one has four bytes, the one behind it five.
-        packed(1, "abcde1abcd2abcde", Wire.join(Wire.varints(16, 12), "abcde1".getBytes(), Wire.varints(9, 6, 2),
-            "2".getBytes(), Wire.varints(11, 11)));
+        packed(1, "abcde1abcd2abcde3", Wire.join(Wire.varints(17, 12), "abcde1".getBytes(), Wire.varints(9, 6, 2),
+            "2".getBytes(), Wire.varints(11, 11, 2), "3".getBytes()));
     }
 
     private void packPlain() {
@@ -899,7 +989,7 @@ public final class MessageBoundariesTest extends Bench {
     private void packWide() {
         // The bytes are what repeats: three of the four of the second are in the first.
         packed(0, "😀😁", Wire.plain("😀😁"));
-        packed(1, "é中é中", Wire.join(Wire.varints(10, 10), "é中".getBytes(java.nio.charset.StandardCharsets.UTF_8),
+        packed(1, "é中é中", Wire.join(Wire.varints(10, 10), "é中".getBytes(StandardCharsets.UTF_8),
             Wire.varints(11, 5)));
         due(4, "take", 2, 1);
         text(2, "é中é中");
@@ -910,7 +1000,7 @@ public final class MessageBoundariesTest extends Bench {
         byte[] base = new byte[4100];
         for (int k = 0; k < 1025; k++) {
             int code = 0x10000 + (k * 7919 % 1021) * 1021 + k;
-            byte[] symbol = new String(Character.toChars(code)).getBytes(java.nio.charset.StandardCharsets.UTF_8);
+            byte[] symbol = new String(Character.toChars(code)).getBytes(StandardCharsets.UTF_8);
             System.arraycopy(symbol, 0, base, 4 * k, 4);
         }
         byte[] text = Wire.join(Wire.varints(32768, 2 * 4100), base, Wire.varints(2 * 28668 + 1, 4100));
@@ -985,6 +1075,32 @@ public final class MessageBoundariesTest extends Bench {
         due(86, "alter", 2, 0, 87);
         due(UNSUPPORTED, "take", 3, 2);
         due(6, "fault");
+    }
+
+    private void takeForged() {
+        byte[] text = Wire.plain("ab");
+        byte[] own = Wire.agents(0);
+        insert(0, 0, "ab");
+        due(Wire.patch(0, own, text, span(0, 2, ROOT, 0, 0)).length, "send", 0, -1, 0);
+        forged(ARGUMENT, 2, Wire.patch(0, Wire.varints(2, 0), text, span(0, 2, ROOT, 0, 0)));
+        forged(ARGUMENT, 3, Wire.patch(0, own, Wire.join(Wire.varints(3, 4), "ab".getBytes()), span(0, 2, ROOT, 0, 0)));
+        forged(ARGUMENT, 4, Wire.patch(0, own, text, span(0, 3, ROOT, 0, 0)));
+        forged(MISSING, 5, Wire.patch(0, own, text, span(1, 2, ROOT, 0, 0)));
+        forged(UNSUPPORTED, 6, Wire.patch(0, own, text, span(0, 2, ROOT, 1, 0)));
+        due(0, "events", 1, -1);
+        forged("2", 0, Wire.patch(3, Wire.agents(7), Wire.plain("zb"), span(0, 2, ROOT, 0, 0)));
+        text(1, "zb");
+        due(7 * AGENT + 1, "blame", 1, 1);
+    }
+
+    /** Alters the message of slot 0, byte by byte, to another one of its size, which peer 1 takes. */
+    private void forged(String want, int fault, byte[] content) {
+        due(content.length, "octet", 0, -1);
+        for (int k = 0; k < content.length; k++) {
+            x.call("alter", 0, k, content[k] & 255);
+        }
+        due(want, "take", 1, 0);
+        due(fault, "fault");
     }
 
     private void loadEmpties() {

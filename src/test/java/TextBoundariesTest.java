@@ -14,6 +14,11 @@ public final class TextBoundariesTest extends Bench {
 
     public static void main(String[] args) {
         both("terms: the root is before all", TextBoundariesTest::rootIsFirst);
+        for (int[] order : new int[][] {{5, 6, 7}, {5, 7, 6}, {6, 5, 7}, {6, 7, 5}, {7, 5, 6}, {7, 6, 5}}) {
+            both("terms: at the left, ordered by their ids", t -> t.siblings(1, "a556677b", order));
+            both("terms: at the right, ordered by their ids", t -> t.siblings(2, "ab556677", order));
+            both("terms: below the root, ordered by their ids", t -> t.rootSiblings(order));
+        }
         both("terms: deleted ones too", TextBoundariesTest::deletedOnesToo);
         both("terms: one that others may have deleted, too", TextBoundariesTest::deletedTwice);
         both("terms: characters", TextBoundariesTest::characters);
@@ -152,6 +157,38 @@ public final class TextBoundariesTest extends Bench {
         // With all of these among the ancestors it hangs at the left of the next one behind the root.
         insert(0, 0, "y");
         text(0, "yzab");
+    }
+
+    /** Three agents write at one index, none knowing of the others; what they write comes in any order. */
+    private void siblings(int index, String want, int[] order) {
+        insert(0, 0, "ab");
+        for (int agent : order) {
+            load(2, 0, Wire.patch(0, Wire.agents(agent, 0), Wire.plain("" + agent + agent),
+                new Wire.Span(0, 0, 2, new int[] {1, 1}, index, 0)));
+        }
+        text(0, want);
+        for (int k = 0; k < 3; k++) {
+            due((5 + k) * AGENT + 1, "head", 0, k);
+        }
+        // One more at either end.
+        for (int agent : new int[] {8, 4}) {
+            load(1, 0, Wire.patch(0, Wire.agents(agent, 0), Wire.plain("" + agent),
+                new Wire.Span(0, 0, 1, new int[] {1, 1}, index, 0)));
+        }
+        text(0, want.replace("55", "455").replace("77", "778"));
+    }
+
+    private void rootSiblings(int[] order) {
+        for (int agent : order) {
+            load(2, 0, Wire.patch(0, Wire.agents(agent), Wire.plain("" + agent + agent),
+                new Wire.Span(0, 0, 2, ROOT, 0, 0)));
+        }
+        text(0, "556677");
+        // A fourth one, whose id is below all these.
+        load(1, 0, Wire.patch(0, Wire.agents(4), Wire.plain("4"), new Wire.Span(0, 0, 1, ROOT, 0, 0)));
+        text(0, "4556677");
+        due(4 * AGENT, "head", 0, 0);
+        due(5 * AGENT + 1, "head", 0, 1);
     }
 
     private void deletedOnesToo() {
