@@ -1013,6 +1013,9 @@ public final class MessageBoundariesTest extends Bench {
         due(STATE, "send", 0, -1, 3);
         due(STATE, "send", 0, 0, 3);
         due(STATE, "send", 0, -1, 4);
+        // Numbers out of range are told ahead of that.
+        due(ARGUMENT, "send", 0, -1, 8);
+        due(ARGUMENT, "send", 0, 4, 3);
         message(3, summary(1, 0));
         due(MISSING, "octet", 4, -1);
         load(0, 0, summary(1, 1, 9, 8000));
