@@ -574,7 +574,7 @@ public final class WeaveText {
         }
 
         private int checksum(int stop) {
-            int sum = NONE;
+            int sum = ~0;
             for (int k = 0; k < stop; k++) {
                 sum ^= get(k);
                 sum = sum >>> 4 ^ REMAINDERS[sum & 15];

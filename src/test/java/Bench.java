@@ -10,7 +10,7 @@ abstract class Bench {
     static final int HIGH = Integer.MAX_VALUE;
     static final long AGENT = 4294967296L;
     /** Behind so many calls the document leaves all answers free. */
-    private static final int CALLS = 512;
+    static final int CALLS = 512;
 
     private static int wrong = 0;
     private static int checks = 0;

@@ -63,6 +63,9 @@ public final class FaceTest {
         Constructor<?>[] makers = WeaveText.class.getDeclaredConstructors();
         check(makers.length == 1 && makers[0].getParameterCount() == 0 && Modifier.isPublic(makers[0].getModifiers()),
             "the constructors are " + Arrays.toString(makers));
+        for (Field field : WeaveText.class.getDeclaredFields()) {
+            check(Modifier.isPrivate(field.getModifiers()), field + " is not private");
+        }
         checkMembers(WeaveText.class, names);
         for (Class<?> inside : WeaveText.class.getDeclaredClasses()) {
             int bits = inside.getModifiers();
@@ -88,15 +91,14 @@ public final class FaceTest {
         return out.toString();
     }
 
-    /** Fields are private, static ones final; no other method bears a public one's name. */
+    /** Static fields are final; no private method bears a public one's name, and none takes more than seven. */
     private static void checkMembers(Class<?> type, Set<String> names) {
         for (Field field : type.getDeclaredFields()) {
             int bits = field.getModifiers();
-            check(Modifier.isPrivate(bits), field + " is not private");
             check(!Modifier.isStatic(bits) || Modifier.isFinal(bits), field + " is not final");
         }
         for (Method method : type.getDeclaredMethods()) {
-            check(Modifier.isPublic(method.getModifiers()) || !names.contains(method.getName()),
+            check(!Modifier.isPrivate(method.getModifiers()) || !names.contains(method.getName()),
                 method + " bears the name of a public one");
             check(method.getParameterCount() <= 7, method + " takes too much");
         }

@@ -18,6 +18,9 @@ public final class FuzzTest {
         Wire.bytes(97, 0xf0, 0x9f, 0x98), Wire.bytes(0xc3, 97), Wire.bytes(0xfe, 0x80), Wire.bytes(0xf8, 0x88, 0x80, 0x80, 0x80)
     };
     private static final int[] POOL = {0, 1, 2, 3, 4, 9, 255};
+    /** What a run may use up before it looks at what has become of the peers. */
+    private static final int CALLS_TO_WRITE = 320;
+    private static final int SAMPLE = 8;
 
     private final Random chance;
     private final int seed;
@@ -33,7 +36,7 @@ public final class FuzzTest {
     }
 
     public static void main(String[] args) {
-        int runs = args.length > 0 ? Integer.parseInt(args[0]) : 240;
+        int runs = args.length > 0 ? Integer.parseInt(args[0]) : 600;
         int from = args.length > 1 ? Integer.parseInt(args[1]) : 0;
         int wrong = 0;
         for (int seed = from; seed < from + runs && wrong < 5; seed++) {
@@ -47,8 +50,12 @@ public final class FuzzTest {
         }
     }
 
+    /** The model answers alone where the document leaves the answers free. */
     private String call(String name, int... args) {
         String due = model.call(name, args);
+        if (real.calls() == Bench.CALLS) {
+            return due;
+        }
         String got = real.call(name, args);
         log.add(name + Arrays.toString(args) + " = " + due);
         if (!due.equals(got) && !failed) {
@@ -63,13 +70,15 @@ public final class FuzzTest {
     }
 
     private void run(int flavour) {
-        int steps = 60 + chance.nextInt(60);
-        for (int k = 0; k < steps && !failed; k++) {
+        int last = CALLS_TO_WRITE - chance.nextInt(200);
+        while (real.calls() < last && !failed) {
             int pick = chance.nextInt(100);
             if (flavour == 1 && pick < 25) {
                 loadPatch();
             } else if (flavour == 2 && pick < 25) {
                 spoil();
+            } else if (pick < 35) {
+                meet();
             } else if (pick < 60) {
                 write();
             } else if (pick < 80) {
@@ -82,6 +91,9 @@ public final class FuzzTest {
         }
         for (int p = 0; p < 4 && !failed; p++) {
             look(p);
+        }
+        for (int b = 0; b < 3 && !failed; b++) {
+            view(b);
         }
     }
 
@@ -97,6 +109,19 @@ public final class FuzzTest {
     private int few() {
         int pick = chance.nextInt(40);
         return pick == 0 ? chance.nextInt(2) * 9 - 1 : pick < 3 ? 3 + chance.nextInt(5) : chance.nextInt(3);
+    }
+
+    /** Places of a row of n, and one beyond each end; of a long row a few, so that a run does not use up its calls. */
+    private int[] places(int n) {
+        int[] row = new int[Math.min(n, SAMPLE) + 2];
+        for (int k = 0; k < row.length; k++) {
+            row[k] = n <= SAMPLE ? k - 1 : k == 0 ? -1 : k == 1 ? n : chance.nextInt(n);
+        }
+        return row;
+    }
+
+    private static int sizeOf(String answer, int otherwise) {
+        return answer.startsWith("t") ? otherwise : Integer.parseInt(answer);
     }
 
     private int length(int peer) {
@@ -130,6 +155,35 @@ public final class FuzzTest {
         call("length", p);
     }
 
+    /** Two peers that know the same write at one place, neither knowing of the other's; then one hears of it. */
+    private void meet() {
+        int p = chance.nextInt(4);
+        int q = (p + 1 + chance.nextInt(3)) % 4;
+        call("sync", p, q);
+        call("sync", q, p);
+        int at = chance.nextInt(Math.min(6, length(p)) + 1);
+        writeAt(p, at);
+        if (chance.nextInt(3) == 0) {
+            call("mark", few(), q);
+        }
+        writeAt(q, at);
+        call("mark", few(), q);
+        call("sync", p, q);
+        if (chance.nextBoolean()) {
+            call("undo", chance.nextBoolean() ? p : q);
+        }
+    }
+
+    private void writeAt(int p, int at) {
+        int most = Math.min(3, length(p) - at);
+        if (most > 0 && chance.nextInt(3) > 0) {
+            call("delete", p, at, 1 + chance.nextInt(most));
+        } else {
+            tape();
+            call("insert", p, at);
+        }
+    }
+
     private void exchange() {
         switch (chance.nextInt(8)) {
             case 0: call("announce", peer(), few()); break;
@@ -142,10 +196,13 @@ public final class FuzzTest {
         call("fault");
     }
 
+    /** The checksum at the end tells of every other byte, too. */
     private void readSlot(int slot) {
-        String size = call("octet", slot, -1);
-        int n = size.startsWith("t") ? 3 : Math.min(300, Integer.parseInt(size));
-        for (int k = -2; k <= n + 1; k++) {
+        int n = sizeOf(call("octet", slot, -1), 3);
+        for (int k = n - 4; k < n; k++) {
+            call("octet", slot, k);
+        }
+        for (int k : places(n)) {
             call("octet", slot, k);
         }
     }
@@ -179,17 +236,13 @@ public final class FuzzTest {
     }
 
     private void view(int b) {
-        String size = call("view", b);
-        int n = size.startsWith("t") ? 2 : Integer.parseInt(size);
-        for (int k = -1; k <= n; k++) {
+        for (int k : places(sizeOf(call("view", b), 2))) {
             call("viewed", k);
         }
     }
 
     private void differ(int b, int c) {
-        String count = call("differ", b, c);
-        int n = count.startsWith("t") ? 1 : Integer.parseInt(count);
-        for (int k = -1; k <= n; k++) {
+        for (int k : places(sizeOf(call("differ", b, c), 1))) {
             for (int what = 0; what < 4; what++) {
                 call("hunk", k, what);
             }
@@ -198,12 +251,11 @@ public final class FuzzTest {
     }
 
     private void look(int p) {
-        int n = model.length(p);
-        for (int k = -1; k <= n; k++) {
+        for (int k : places(model.length(p))) {
             call("at", p, k);
             call("blame", p, k);
         }
-        for (int k = 0; k < 5; k++) {
+        for (int k = 0; k < 4; k++) {
             call("head", p, k);
         }
         call("critical", p);

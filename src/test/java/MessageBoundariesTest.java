@@ -40,6 +40,7 @@ public final class MessageBoundariesTest extends Bench {
         both("terms: nothing is known at first", MessageBoundariesTest::knownFirst);
         both("terms: the latest summary with this sender", MessageBoundariesTest::knownLatest);
         both("terms: then nothing is taken", MessageBoundariesTest::knownStays);
+        both("terms: what a peer knows is its own", MessageBoundariesTest::knownApart);
         both("terms: its number is below the count of its agent", MessageBoundariesTest::knownBelow);
     }
 
@@ -102,6 +103,7 @@ public final class MessageBoundariesTest extends Bench {
         both("24 send: the least d", MessageBoundariesTest::packNearest);
         both("24 send: bytes that come to a piece of the first sort", MessageBoundariesTest::packPlain);
         both("24 send: characters of several bytes", MessageBoundariesTest::packWide);
+        both("24 send: the UTF-8 of all inserted characters", MessageBoundariesTest::sendSymbols);
         real("24 send: longer than 32768 bytes", MessageBoundariesTest::sendTooLong);
     }
 
@@ -119,6 +121,7 @@ public final class MessageBoundariesTest extends Bench {
         both("27 sync: as for take", MessageBoundariesTest::syncWrong);
         real("27 sync: no room", MessageBoundariesTest::syncNoRoom);
         real("27 sync: as for send", MessageBoundariesTest::syncTooLong);
+        real("27 sync: the patch that from writes for it", MessageBoundariesTest::syncShort);
         both("30 fault: 0 before", t -> t.due(0, "fault"));
         both("30 fault: the latest message", MessageBoundariesTest::faultLatest);
         both("30 fault: a call that throws ahead of a message leaves it", MessageBoundariesTest::faultStays);
@@ -152,6 +155,11 @@ public final class MessageBoundariesTest extends Bench {
 
     private static byte[] summary(int sender, long... values) {
         return Wire.message(2, sender, Wire.varints(values));
+    }
+
+    /** A patch of so many characters of agent 9, with this TEXT. */
+    private static byte[] run(int size, byte[] text) {
+        return Wire.patch(0, NINE, text, span(0, size, ROOT, 0, 0));
     }
 
     /** A patch of one character of agent 9, with this TEXT. */
@@ -283,6 +291,19 @@ public final class MessageBoundariesTest extends Bench {
         for (int to = -1; to < 4; to++) {
             due(Wire.run(0, 2).length, "send", 0, to, 0);
         }
+    }
+
+    private void knownApart() {
+        load(2, 0, Wire.run(9, 2));
+        due(2, "sync", 0, 1);
+        load(0, 0, summary(3, 1, 9, 2));
+        due(14, "send", 0, 3, 0);
+        due(Wire.run(9, 2).length, "send", 1, 3, 0);
+        load(0, 1, summary(3, 1, 9, 1));
+        due(14, "send", 0, 3, 0);
+        x.call("send", 1, 3, 0);
+        byte[] last = Wire.patch(1, NINE, Wire.plain("a"), span(1, 1, new int[] {0, 0}, 1, 0));
+        message(0, last);
     }
 
     private void knownLatest() {
@@ -426,12 +447,16 @@ public final class MessageBoundariesTest extends Bench {
         load(ARGUMENT, 3, 0, withText(Wire.join(Wire.varints(6, 2), a, Wire.varints(9, 1))));
         load(ARGUMENT, 3, 0, withText(Wire.varints(0, 0)));
         load(ARGUMENT, 3, 0, withText(Wire.join(Wire.varints(0, 2), a)));
+        // A piece of five bytes, of which four are there: two pieces that would make five.
+        load(ARGUMENT, 3, 0, run(5, Wire.join(Wire.varints(5, 10), Wire.varints(2), a, Wire.varints(9, 1))));
+        load(ARGUMENT, 3, 0, run(6, Wire.join(Wire.varints(6, 2), a, Wire.varints(10), Wire.varints(2), a,
+            Wire.varints(9, 1))));
         load(1, 0, withText(Wire.join(Wire.varints(1, 2), a)));
     }
 
     private void noText() {
         int[][] bad = {{0x80}, {0xc2}, {0xc0, 0x80}, {0xed, 0xa0, 0x80}, {0xf4, 0x90, 0x80, 0x80},
-            {0xe0, 0x9f, 0xbf}, {0xff}, {97, 0xf0, 0x9f, 0x98}};
+            {0xe0, 0x9f, 0xbf}, {0xff}, {97, 0xf0, 0x9f, 0x98}, {0x82, 0x80}, {0xbf, 0xbf}, {0xf8, 0x90, 0x80, 0x80}};
         for (int[] row : bad) {
             load(ARGUMENT, 3, 0, withText(Wire.plain(Wire.bytes(row))));
         }
@@ -995,16 +1020,32 @@ public final class MessageBoundariesTest extends Bench {
         text(2, "é中é中");
     }
 
+    /** Every bit of a character, set or not, at each of the widths. */
+    private void sendSymbols() {
+        int[] codes = {0, 0x2a, 0x55, 0x7f, 0x80, 0xaa, 0x155, 0x2aa, 0x400, 0x555, 0x7ff, 0x800, 0x1555, 0x2aaa, 0x5555,
+            0xaaaa, 0xc000, 0xfff0, 0xffff, 0x10000, 0x2aaaa, 0x55555, 0xaaaaa, 0xfffff, 0x100000, 0x105555, 0x10aaaa,
+            0x10ffff};
+        String text = new String(codes, 0, codes.length);
+        packed(3, text, Wire.plain(text));
+        due(codes.length, "take", 2, 3);
+        text(2, text);
+    }
+
     /** A patch unpacks to what a peer cannot pack: it repeats from further back than a peer looks. */
     private static byte[] tooLong() {
+        return tooLong(8192);
+    }
+
+    private static byte[] tooLong(int characters) {
         byte[] base = new byte[4100];
         for (int k = 0; k < 1025; k++) {
             int code = 0x10000 + (k * 7919 % 1021) * 1021 + k;
             byte[] symbol = new String(Character.toChars(code)).getBytes(StandardCharsets.UTF_8);
             System.arraycopy(symbol, 0, base, 4 * k, 4);
         }
-        byte[] text = Wire.join(Wire.varints(32768, 2 * 4100), base, Wire.varints(2 * 28668 + 1, 4100));
-        return Wire.patch(2, NINE, text, span(0, 8192, ROOT, 0, 0));
+        int more = 4 * characters - base.length;
+        byte[] text = Wire.join(Wire.varints(4 * characters, 2 * 4100), base, Wire.varints(2 * more + 1, 4100));
+        return Wire.patch(2, NINE, text, span(0, characters, ROOT, 0, 0));
     }
 
     private void sendTooLong() {
@@ -1196,6 +1237,19 @@ public final class MessageBoundariesTest extends Bench {
         due(14, "octet", 0, -1);
     }
 
+    /** All events would be too long for a patch, but not those that the other one lacks. */
+    private void syncShort() {
+        load("8190", 0, 0, tooLong(8190));
+        load("8190", 0, 1, tooLong(8190));
+        due(STATE, "send", 0, -1, 0);
+        insert(0, 3, "b");
+        due(STATE, "sync", 0, 2);
+        due(1, "sync", 0, 1);
+        due(0, "sync", 0, 1);
+        due(0, "fault");
+        due('b', "at", 1, 3);
+    }
+
     private void faultLatest() {
         load(ARGUMENT, 1, 0, NOTHING);
         load(ARGUMENT, 2, 0, summary(0, 1));
@@ -1237,6 +1291,11 @@ public final class MessageBoundariesTest extends Bench {
         due(-1, "crossed");
         due(1, "alter", 0, 2, 0);
         due(-1, "crossed");
+        // Once it was so, it stays so.
+        due(0, "alter", 0, 2, 0);
+        due(8, "announce", 0, 0);
+        due(0, "take", 1, 0);
+        due(-1, "crossed");
     }
 
     private void crossedLoad() {
@@ -1245,6 +1304,8 @@ public final class MessageBoundariesTest extends Bench {
         due(ARGUMENT, "load", 0);
         due(-1, "crossed");
         due(0, "sync", 0, 1);
+        due(8, "announce", 0, 0);
+        due(0, "alter", 0, 2, 0);
         due(-1, "crossed");
     }
 

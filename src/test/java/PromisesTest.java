@@ -34,6 +34,11 @@ public final class PromisesTest extends Bench {
         run("25 take", PromisesTest::take);
         run("25 take late, twice", PromisesTest::takeLate);
         run("26 load", PromisesTest::load);
+        run("fault 1", PromisesTest::frames);
+        run("fault 2", PromisesTest::bodies);
+        run("fault 3", PromisesTest::texts);
+        run("fault 4", PromisesTest::spans);
+        run("faults 5 and 6", PromisesTest::events);
         run("27 sync", PromisesTest::sync);
         run("28 alter, 29 octet", PromisesTest::alterAndOctet);
         run("30 fault", PromisesTest::fault);
@@ -44,7 +49,9 @@ public final class PromisesTest extends Bench {
     }
 
     private static void run(String name, Consumer<PromisesTest> test) {
-        test.accept(new PromisesTest(new Real(), name));
+        PromisesTest one = new PromisesTest(new Real(), name);
+        test.accept(one);
+        one.withinCalls();
         test.accept(new PromisesTest(new Model(), name + " (model)"));
     }
 
@@ -88,14 +95,11 @@ public final class PromisesTest extends Bench {
         due("", "feed", -1, 0, 0, 0, 0);
         due(20, "end", 0);
         due(0, "insert", 0, 0);
-        for (int k = 0; k < 1638; k++) {
+        for (int k = 0; k < 400; k++) {
             due("", "feed", 0, 0, 0, 0, 0);
         }
-        due(STATE, "feed", 0, 0, 0, 0, 0);
-        due(0, "end", 32760);
-        due(12, "end", 32748);
-        due("", "feed", 0, 0, 0, 0, 0);
-        due(0, "end", 32768);
+        due(ARGUMENT, "end", 8001);
+        due(1, "end", 7999);
     }
 
     private void insert() {
@@ -623,15 +627,11 @@ public final class PromisesTest extends Bench {
         due(0, "end", good.length);
         due(2, "load", 3);
         text(3, "ab");
-        frames(good);
-        bodies();
-        texts();
-        spans();
-        events();
     }
 
     /** Fault 1. */
-    private void frames(byte[] good) {
+    private void frames() {
+        byte[] good = Wire.patch(1, Wire.agents(9), Wire.plain("ab"), span(0, 2, new int[0], 0, 0));
         for (int k = 0; k < good.length; k++) {
             byte[] one = good.clone();
             one[k] ^= 1 << k % 8;

@@ -1,3 +1,5 @@
+import java.nio.charset.StandardCharsets;
+import java.util.Arrays;
 import java.util.function.Consumer;
 
 /**
@@ -24,7 +26,12 @@ public final class TextBoundariesTest extends Bench {
         both("terms: characters", TextBoundariesTest::characters);
         both("terms: the shortest form", TextBoundariesTest::shortestForm);
         both("terms: a first byte and as many in all", TextBoundariesTest::cutForms);
+        for (int first = 0; first < 256; first += 16) {
+            int from = first;
+            real("terms: a first byte for two, three or four", t -> t.firstBytes(from));
+        }
         both("terms: the parents of the first one are the heads", TextBoundariesTest::ownParents);
+        both("terms: sixteen heads are the parents", TextBoundariesTest::ownSixteenParents);
         both("1 new: two objects share nothing", TextBoundariesTest::newObjects);
         both("2 feed: the highest of each first", TextBoundariesTest::feedOrder);
         beyond("2 feed: more than 32768", TextBoundariesTest::feedFull);
@@ -71,6 +78,7 @@ public final class TextBoundariesTest extends Bench {
         both("9 line: no such line", TextBoundariesTest::noSuchLine);
         both("10 find: from 0 .. length", TextBoundariesTest::findFrom);
         both("10 find: -1 if there is none", TextBoundariesTest::findNone);
+        both("10 find: deleted ones do not stand in the text", TextBoundariesTest::findDeleted);
         both("10 find: an empty tape", TextBoundariesTest::findEmpty);
         both("10 find: it is no text", TextBoundariesTest::findNoText);
         both("11 blame: 2^32 times the agent", TextBoundariesTest::blameEdges);
@@ -91,6 +99,8 @@ public final class TextBoundariesTest extends Bench {
         both("16 mark: bookmarks 0 .. 7", TextBoundariesTest::markAll);
         both("16 mark: a graph as it is now", TextBoundariesTest::markNow);
         both("17 view: a later mark changes nothing of it", TextBoundariesTest::viewStays);
+        both("16 mark: of another peer then", TextBoundariesTest::markOther);
+        both("17 view: others delete the same one later", TextBoundariesTest::viewDeletedTwice);
         both("17 view: there is none", TextBoundariesTest::viewNone);
         both("18 viewed: empty at first", TextBoundariesTest::viewedEmpty);
         both("18 viewed: there is none", TextBoundariesTest::viewedEdges);
@@ -99,6 +109,7 @@ public final class TextBoundariesTest extends Bench {
         both("19 differ: nothing in both", TextBoundariesTest::differAll);
         both("19 differ: nothing differs", TextBoundariesTest::differNothing);
         both("19 differ: in neither text", TextBoundariesTest::differNeither);
+        both("19 differ: in neither text, between two that are", TextBoundariesTest::differAcross);
         both("19 differ: they stay until the next answer", TextBoundariesTest::hunksStay);
         both("19 differ: a bookmark is none, ahead of two peers", TextBoundariesTest::differNone);
         both("20 hunk: no such hunk, another what first", TextBoundariesTest::hunkEdges);
@@ -264,6 +275,24 @@ public final class TextBoundariesTest extends Bench {
         due(0, "length", 0);
     }
 
+    /** Sixteen first bytes, each with no byte to three behind it; Java's own decoder tells what is due. */
+    private void firstBytes(int from) {
+        for (int first = from; first < from + 16; first++) {
+            byte[] all = Wire.bytes(first, 0x90, 0xbf, 0x80);
+            for (int size = 1; size <= 4; size++) {
+                byte[] row = Arrays.copyOf(all, size);
+                String text = new String(row, StandardCharsets.UTF_8);
+                feed(row);
+                if (text.indexOf('\ufffd') >= 0) {
+                    due(UNSUPPORTED, "insert", 0, 0);
+                } else {
+                    due(text.codePointCount(0, text.length()), "insert", 0, 0);
+                    due(text.codePointAt(0), "at", 0, 0);
+                }
+            }
+        }
+    }
+
     private void ownParents() {
         load(3, 0, crowd(7, 3));
         insert(0, 0, "xy");
@@ -274,6 +303,33 @@ public final class TextBoundariesTest extends Bench {
         load(0, 0, Wire.message(2, 1, Wire.varints(3, 7, 1, 8, 1, 9, 1)));
         due(own.length, "send", 0, 1, 0);
         message(0, own);
+    }
+
+    private void ownSixteenParents() {
+        insert(2, 0, "m");
+        load(15, 2, crowd(4, 15));
+        due(2 * AGENT, "head", 2, 0);
+        due(18 * AGENT, "head", 2, 15);
+        insert(2, 16, "!");
+        due(2 * AGENT + 1, "head", 2, 0);
+        due(MISSING, "head", 2, 1);
+        due(1, "related", 2, 18, 0, 2, 1);
+        due(1, "critical", 2);
+        // Known of it is all but the last event, which has all sixteen written out.
+        long[] counts = new long[33];
+        counts[0] = 16;
+        int[] ids = new int[16];
+        int[] parents = new int[32];
+        for (int k = 0; k < 16; k++) {
+            ids[k] = k == 0 ? 2 : 3 + k;
+            counts[2 * k + 1] = ids[k];
+            counts[2 * k + 2] = 1;
+            parents[2 * k] = k;
+        }
+        load(0, 2, Wire.message(2, 1, Wire.varints(counts)));
+        byte[] last = Wire.patch(2, Wire.agents(ids), Wire.plain("!"), new Wire.Span(0, 1, 1, parents, 16, 0));
+        due(last.length, "send", 2, 1, 0);
+        message(0, last);
     }
 
     private void newObjects() {
@@ -711,6 +767,23 @@ public final class TextBoundariesTest extends Bench {
         due(0, "end", 0);
     }
 
+    private void findDeleted() {
+        insert(0, 0, "a\nxb\nab");
+        due(5, "delete", 0, 1, 2);
+        feed("ab");
+        due(0, "find", 0, 0);
+        feed("ab");
+        due(3, "find", 0, 1);
+        feed("\n");
+        due(2, "find", 0, 0);
+        feed("x");
+        due(-1, "find", 0, 0);
+        feed("a\nx");
+        due(-1, "find", 0, 0);
+        due(2, "line", 0, -1);
+        due(3, "line", 0, 1);
+    }
+
     private void findNone() {
         feed("a");
         due(-1, "find", 0, 0);
@@ -908,6 +981,42 @@ public final class TextBoundariesTest extends Bench {
         due(ARGUMENT, "viewed", 1);
     }
 
+    private void markOther() {
+        insert(0, 0, "ab");
+        insert(1, 0, "cde");
+        due(2, "mark", 3, 0);
+        due(2, "mark", 4, 0);
+        due(3, "mark", 3, 1);
+        due(3, "view", 3);
+        due('c', "viewed", 0);
+        due(UNSUPPORTED, "differ", 3, 4);
+        due(2, "view", 4);
+        due('a', "viewed", 0);
+    }
+
+    /** Two peers delete the same character; what was before, between and behind the two stays apart. */
+    private void viewDeletedTwice() {
+        insert(0, 0, "abc");
+        due(3, "sync", 0, 1);
+        due(3, "mark", 0, 0);
+        due(2, "delete", 0, 1, 1);
+        due(2, "delete", 1, 1, 1);
+        due(4, "mark", 1, 0);
+        due(1, "sync", 1, 0);
+        due(5, "mark", 2, 0);
+        due(3, "view", 0);
+        due('b', "viewed", 1);
+        due(2, "view", 1);
+        due('c', "viewed", 1);
+        due(2, "view", 2);
+        due('c', "viewed", 1);
+        due(0, "differ", 1, 2);
+        due(1, "differ", 0, 1);
+        hunk(0, 1, 1, 1, 0);
+        due(1, "differ", 2, 0);
+        hunk(0, 1, 0, 1, 1);
+    }
+
     private void viewNone() {
         insert(0, 0, "ab");
         due(2, "mark", 3, 0);
@@ -1024,6 +1133,22 @@ public final class TextBoundariesTest extends Bench {
         hunk(0, 2, 0, 2, 1);
     }
 
+    /** The n in the middle is in neither text, but parts nothing: there is one hunk, not two. */
+    private void differAcross() {
+        insert(0, 0, "axb");
+        due(3, "mark", 0, 0);
+        insert(0, 2, "ny");
+        due(4, "delete", 0, 2, 1);
+        due(3, "delete", 0, 1, 1);
+        due(7, "mark", 1, 0);
+        due(3, "view", 1);
+        due('y', "viewed", 1);
+        due(1, "differ", 0, 1);
+        hunk(0, 1, 1, 1, 1);
+        due(1, "differ", 1, 0);
+        hunk(0, 1, 1, 1, 1);
+    }
+
     private void hunksStay() {
         insert(0, 0, "ab");
         due(2, "mark", 0, 0);
@@ -1036,6 +1161,9 @@ public final class TextBoundariesTest extends Bench {
         due(ARGUMENT, "differ", 0, 8);
         due(0, "mark", 0, 2);
         due(0, "delete", 0, 0, 3);
+        hunk(0, 1, 0, 1, 1);
+        // Nor does it matter that both bookmarks are of one peer again, but others.
+        due(6, "mark", 0, 0);
         hunk(0, 1, 0, 1, 1);
         due(0, "differ", 1, 1);
         due(MISSING, "hunk", 0, 0);
